@@ -492,10 +492,11 @@ public final class OwnRain {
                 || !isWithin(many, 1, FIELDS) || many != Integer.bitCount(fields)) {
             return NONE;
         }
+        int sweat = planner.assign(people, fields);
         if (person == NONE) {
-            return planner.mostSweat(people, fields);
+            return sweat;
         }
-        return isOf(people, person) ? planner.workplace(people, fields, person) : NONE;
+        return isOf(people, person) ? planner.places[person] : NONE;
     }
 
     public int shares(int people, int amount, int person) {
@@ -1050,8 +1051,12 @@ public final class OwnRain {
             System.arraycopy(other.from, 0, from, 0, MISSING_KEPT);
             System.arraycopy(other.to, 0, to, 0, MISSING_KEPT);
             System.arraycopy(other.foretold, 0, foretold, 0, FORECASTS_KEPT);
-            System.arraycopy(other.hot, 0, hot, 0, FORECASTS_KEPT);
-            System.arraycopy(other.buys, 0, buys, 0, OFFERS_KEPT);
+            for (int i = 0; i < FORECASTS_KEPT; i++) {
+                hot[i] = other.hot[i];
+            }
+            for (int i = 0; i < OFFERS_KEPT; i++) {
+                buys[i] = other.buys[i];
+            }
             System.arraycopy(other.price, 0, price, 0, OFFERS_KEPT);
             System.arraycopy(other.drops, 0, drops, 0, OFFERS_KEPT);
         }
@@ -1582,7 +1587,7 @@ public final class OwnRain {
                     waiting[top++] = named(with, person);
                 } else if (what == TOGETHER) {
                     waiting[top++] = groups[with];
-                    i = text.groupTo[with] - 1;
+                    i = Math.max(i, text.groupTo[with] - 1);
                 } else if (what == NEGATED && top > 0) {
                     waiting[top - 1] = -waiting[top - 1];
                 } else if (what == NOT && top > 0) {
@@ -1631,7 +1636,9 @@ public final class OwnRain {
             }
         }
 
-        private int named(int name, int person) {
+        private int named(int name, int asked) {
+            // Where there is nobody no NAME of a PERSON stands, so it doesn't matter whose it would be.
+            int person = Math.max(0, asked);
             switch (name) {
                 case HERE:
                     return here;
@@ -1643,13 +1650,6 @@ public final class OwnRain {
                     return world.hour;
                 case BOTH:
                     return both;
-                default:
-                    return person == NONE ? 0 : ownNamed(name, person);
-            }
-        }
-
-        private int ownNamed(int name, int person) {
-            switch (name) {
                 case WHO:
                     return person;
                 case AGE:
@@ -1676,6 +1676,10 @@ public final class OwnRain {
         private final World[] worlds = new World[PLAN_HOURS + 1];
         private final int[] tried = new int[PLAN_HOURS];
         private final int[] grown = new int[FIELDS];
+        /** Where each of those who were assigned works. */
+        final int[] places = new int[PEOPLE];
+        /** By PERSON and FIELD: what it would sweat there. */
+        private final int[] sweats = new int[PEOPLE * FIELDS];
         /** By the set of FIELDS that are taken: the most that those who have none yet can sweat. */
         private final int[] most = new int[1 << FIELDS];
 
@@ -1762,35 +1766,23 @@ public final class OwnRain {
             return true;
         }
 
-        int mostSweat(int people, int fields) {
-            for (int taken = fields; taken > 0; taken = taken - 1 & fields) {
-                most[taken] = mostFrom(people, fields, taken);
-            }
-            most[0] = mostFrom(people, fields, 0);
-            return most[0];
-        }
-
-        /** Needs most of all sets of FIELDS with one more. */
-        private int mostFrom(int people, int fields, int taken) {
-            int person = nextOf(people, Integer.bitCount(taken));
-            int found = 0;
-            for (int f = 0; f < FIELDS && person != NONE; f++) {
-                if (isOf(fields & ~taken, f)) {
-                    found = Math.max(found, sweatAt(person, f) + most[taken | 1 << f]);
-                }
-            }
-            return found;
-        }
-
-        /** The PERSON of a set with so many of it below; NONE without. */
-        private static int nextOf(int people, int below) {
-            int passed = 0;
+        /** WHO WORKS WHERE: how much is sweated; places has where. */
+        int assign(int people, int fields) {
             for (int p = 0; p < PEOPLE; p++) {
-                if (isOf(people, p) && passed++ == below) {
-                    return p;
+                for (int f = 0; f < FIELDS; f++) {
+                    sweats[p * FIELDS + f] = isOf(people, p) && isOf(fields, f) ? sweatAt(p, f) : 0;
                 }
             }
-            return NONE;
+            // Downwards, as each set asks for those with one FIELD more.
+            for (int taken = most.length - 1; taken >= 0; taken--) {
+                most[taken] = mostBeyond(people, fields, taken);
+            }
+            int taken = 0;
+            for (int p = 0; p < PEOPLE; p++) {
+                places[p] = isOf(people, p) ? lowestPlace(p, fields, taken) : NONE;
+                taken |= places[p] == NONE ? 0 : 1 << places[p];
+            }
+            return most[0];
         }
 
         private int sweatAt(int person, int field) {
@@ -1803,22 +1795,35 @@ public final class OwnRain {
             return weather.sweatOf(world, person);
         }
 
-        int workplace(int people, int fields, int person) {
-            int whole = mostSweat(people, fields);
-            int taken = 0;
-            for (int p = 0; p <= person; p++) {
-                int place = isOf(people, p) ? lowestPlace(fields & ~taken, taken, p) : NONE;
-                if (p == person) {
-                    return place;
+        private int mostBeyond(int people, int fields, int taken) {
+            int person = nextOf(people, Integer.bitCount(taken));
+            int found = 0;
+            for (int f = 0; f < FIELDS && person != NONE; f++) {
+                if (isOf(fields & ~taken, f)) {
+                    found = Math.max(found, sweats[person * FIELDS + f] + most[taken | 1 << f]);
                 }
-                taken |= place == NONE ? 0 : 1 << place;
             }
-            return whole;
+            return found;
         }
 
-        private int lowestPlace(int free, int taken, int person) {
+        /** The PERSON of a set with so many of it below; NONE without. */
+        private static int nextOf(int people, int below) {
+            int passed = 0;
+            for (int p = 0; p < PEOPLE; p++) {
+                if (isOf(people, p)) {
+                    if (passed == below) {
+                        return p;
+                    }
+                    passed++;
+                }
+            }
+            return NONE;
+        }
+
+        private int lowestPlace(int person, int fields, int taken) {
             for (int f = 0; f < FIELDS; f++) {
-                if (isOf(free, f) && sweatAt(person, f) + most[taken | 1 << f] == most[taken]) {
+                if (isOf(fields & ~taken, f)
+                        && sweats[person * FIELDS + f] + most[taken | 1 << f] == most[taken]) {
                     return f;
                 }
             }
