@@ -138,6 +138,7 @@ public final class OwnRain {
 
     private final State now;
     private final State kept;
+    private final Tape tape;
     private final Reader reader;
     private final Weather weather;
     private final Planner planner;
@@ -146,7 +147,8 @@ public final class OwnRain {
     public OwnRain() {
         now = new State();
         kept = new State();
-        reader = new Reader();
+        tape = new Tape();
+        reader = new Reader(tape);
         weather = new Weather(now);
         planner = new Planner(now, weather);
         ways = new Ways(now);
@@ -184,22 +186,22 @@ public final class OwnRain {
     }
 
     public int feed(int a, int b, int c, int d, int e) {
-        if (reader.length + FED > TAPE) {
+        if (tape.length + FED > TAPE) {
             return NONE;
         }
-        reader.append(a);
-        reader.append(b);
-        reader.append(c);
-        reader.append(d);
-        reader.append(e);
-        return reader.length;
+        tape.append(a);
+        tape.append(b);
+        tape.append(c);
+        tape.append(d);
+        tape.append(e);
+        return tape.length;
     }
 
     public int end(int n) {
-        if (n < 0 || n > reader.length) {
+        if (n < 0 || n > tape.length) {
             return NONE;
         }
-        reader.length = n;
+        tape.length = n;
         return n;
     }
 
@@ -756,7 +758,7 @@ public final class OwnRain {
             case 12:
                 return now.lists.offers;
             case 13:
-                return reader.length;
+                return tape.length;
             default:
                 return OTHERS;
         }
@@ -1109,7 +1111,8 @@ public final class OwnRain {
             if (steps.count < 1) {
                 return NONE;
             }
-            for (int p = steps.takeBack(world); p < land.people; p++) {
+            int told = steps.takeBack(world);
+            for (int p = told; p < land.people; p++) {
                 world.settle(p, land.home[p], land.brought[p]);
             }
             return steps.count;
@@ -1161,25 +1164,126 @@ public final class OwnRain {
         }
     }
 
-    /** The tape, and how a TEXT is read from it. */
-    private static final class Reader {
+    /** The tape, and the TOKENS on it. */
+    private static final class Tape {
         int length;
-        int fault = NONE;
-        int place = NONE;
-        private final int[] tape = new int[TAPE];
-        private Text draft;
-        private int law;
-        private int token;
-        private int number;
-        private int tokenAt;
-        private int tokenEnd;
+        /** How many TOKENS were found, the end being the last one. */
+        int tokens;
+        final int[] token = new int[TAPE + 1];
+        final int[] number = new int[TAPE + 1];
+        final int[] place = new int[TAPE + 1];
+        private final int[] bytes = new int[TAPE];
 
         /** Four bytes, the highest first. */
-        void append(int bytes) {
+        void append(int four) {
             for (int shift = 24; shift >= 0 && length < TAPE; shift -= 8) {
-                tape[length] = bytes >> shift & 255;
+                bytes[length] = four >> shift & 255;
                 length++;
             }
+        }
+
+        void findTokens() {
+            tokens = 0;
+            int at = 0;
+            for (int i = 0; i < TAPE && at < length; i++) {
+                if (isLetter(bytes[at])) {
+                    at = addWord(at);
+                } else if (isDigit(bytes[at])) {
+                    at = addNumber(at);
+                } else if (bytes[at] == ' ' || bytes[at] == '\n') {
+                    at++;
+                } else {
+                    at = addSign(at);
+                }
+            }
+            addToken(TEXT_END, length);
+        }
+
+        private void addToken(int what, int at) {
+            if (tokens <= TAPE) {
+                token[tokens] = what;
+                place[tokens] = at;
+                number[tokens] = 0;
+                tokens++;
+            }
+        }
+
+        // Each of these tells where what it adds has ended.
+
+        private int addWord(int from) {
+            int to = from;
+            while (to < length && isLetter(bytes[to])) {
+                to++;
+            }
+            addToken(wordOf(from, to), from);
+            return to;
+        }
+
+        private int addNumber(int from) {
+            int value = 0;
+            int to = from;
+            while (to < length && isDigit(bytes[to])) {
+                // One above what is a NUMBER is enough to know that it is none.
+                value = Math.min(value * 10 + bytes[to] - '0', MOST_NUMBER + 1);
+                to++;
+            }
+            addToken(NUMBER, from);
+            number[tokens - 1] = value;
+            return to;
+        }
+
+        private int addSign(int from) {
+            int sign = SIGNS.indexOf((char) bytes[from]);
+            int what = sign < 0 ? NO_TOKEN : FIRST_SIGN + sign;
+            boolean orLike = from + 1 < length && bytes[from + 1] == '=' && (what == LESS || what == MORE);
+            if (orLike) {
+                what = what == LESS ? AT_MOST : AT_LEAST;
+            }
+            addToken(what, from);
+            return orLike ? from + 2 : from + 1;
+        }
+
+        private int wordOf(int from, int to) {
+            int word = 0;
+            int at = from;
+            boolean same = true;
+            for (int i = 0; i < WORDS.length(); i++) {
+                char sign = WORDS.charAt(i);
+                if (sign != ' ') {
+                    same = same && at < to && bytes[at] == sign;
+                    at++;
+                } else if (same && at == to) {
+                    return word;
+                } else {
+                    word++;
+                    at = from;
+                    same = true;
+                }
+            }
+            return NO_TOKEN;
+        }
+
+        private static boolean isLetter(int sign) {
+            return isWithin(sign, 'a', 'z') || isWithin(sign, 'A', 'Z');
+        }
+
+        private static boolean isDigit(int sign) {
+            return isWithin(sign, '0', '9');
+        }
+    }
+
+    /** How a TEXT is read from the tape. */
+    private static final class Reader {
+        int fault = NONE;
+        int place = NONE;
+        private final Tape tape;
+        private Text draft;
+        private int law;
+        private int index;
+        private int token;
+
+        Reader(Tape itsTape) {
+            tape = itsTape;
         }
 
         /** The tape, which is empty then, as a TEXT; null if it has a FAULT. */
@@ -1187,19 +1291,27 @@ public final class OwnRain {
             fault = 0;
             place = NONE;
             draft = new Text();
-            tokenEnd = 0;
-            advance();
+            tape.findTokens();
+            index = 0;
+            token = tape.token[0];
             for (int i = 0; i <= CLAUSES && fault == 0 && token != TEXT_END; i++) {
                 readClause(i);
             }
-            length = 0;
+            tape.length = 0;
             return fault == 0 ? draft : null;
+        }
+
+        private void advance() {
+            if (index + 1 < tape.tokens) {
+                index++;
+            }
+            token = tape.token[index];
         }
 
         private void fail(int why) {
             if (fault == 0) {
                 fault = why;
-                place = tokenAt;
+                place = tape.place[index];
             }
         }
 
@@ -1242,7 +1354,7 @@ public final class OwnRain {
                 if (k > 0) {
                     expect(SHAPES[at]);
                 }
-                draft.parts[clause * PARTS + k] = number;
+                draft.parts[clause * PARTS + k] = tape.number[index];
                 expectNumber(SHAPES[at + 1], SHAPES[at + 2]);
             }
         }
@@ -1258,7 +1370,7 @@ public final class OwnRain {
         private void expectNumber(int least, int most) {
             if (token != NUMBER) {
                 fail(CANT_STAND);
-            } else if (number < least || number > most) {
+            } else if (!isWithin(tape.number[index], least, most)) {
                 fail(NOT_TOLD);
             } else if (fault == 0) {
                 advance();
@@ -1331,7 +1443,7 @@ public final class OwnRain {
                 return;
             }
             if (token == NUMBER) {
-                draft.write(NUMBER, number);
+                draft.write(NUMBER, tape.number[index]);
                 expectNumber(0, MOST_NUMBER);
             } else if (isName(token)) {
                 readName(own);
@@ -1398,74 +1510,6 @@ public final class OwnRain {
 
         private static boolean isOwnName(int word) {
             return word == WORK || isWithin(word, AGE, OLD);
-        }
-
-        private void advance() {
-            tokenAt = tokenEnd;
-            while (tokenAt < length && (tape[tokenAt] == ' ' || tape[tokenAt] == '\n')) {
-                tokenAt++;
-            }
-            tokenEnd = tokenAt;
-            if (tokenAt >= length) {
-                token = TEXT_END;
-            } else if (isLetter(tape[tokenAt])) {
-                readWord();
-            } else if (isDigit(tape[tokenAt])) {
-                readNumber();
-            } else {
-                readSign();
-            }
-        }
-
-        private static boolean isLetter(int sign) {
-            return isWithin(sign, 'a', 'z') || isWithin(sign, 'A', 'Z');
-        }
-
-        private static boolean isDigit(int sign) {
-            return isWithin(sign, '0', '9');
-        }
-
-        private void readNumber() {
-            token = NUMBER;
-            number = 0;
-            while (tokenEnd < length && isDigit(tape[tokenEnd])) {
-                // One above what is a NUMBER is enough to know that it is none.
-                number = Math.min(number * 10 + tape[tokenEnd] - '0', MOST_NUMBER + 1);
-                tokenEnd++;
-            }
-        }
-
-        private void readWord() {
-            while (tokenEnd < length && isLetter(tape[tokenEnd])) {
-                tokenEnd++;
-            }
-            token = NO_TOKEN;
-            int word = 0;
-            int at = tokenAt;
-            boolean same = true;
-            for (int i = 0; i < WORDS.length() && token == NO_TOKEN; i++) {
-                char sign = WORDS.charAt(i);
-                if (sign != ' ') {
-                    same = same && at < tokenEnd && tape[at] == sign;
-                    at++;
-                } else if (same && at == tokenEnd) {
-                    token = word;
-                } else {
-                    word++;
-                    at = tokenAt;
-                    same = true;
-                }
-            }
-        }
-
-        private void readSign() {
-            int sign = SIGNS.indexOf((char) tape[tokenAt]);
-            token = sign < 0 ? NO_TOKEN : FIRST_SIGN + sign;
-            tokenEnd = tokenAt + 1;
-            if ((token == LESS || token == MORE) && tokenEnd < length && tape[tokenEnd] == '=') {
-                token = token == LESS ? AT_MOST : AT_LEAST;
-                tokenEnd++;
-            }
         }
     }
 
@@ -1638,7 +1682,7 @@ public final class OwnRain {
 
         private int named(int name, int asked) {
             // Where there is nobody no NAME of a PERSON stands, so it doesn't matter whose it would be.
-            int person = Math.max(0, asked);
+            int person = asked == NONE ? 0 : asked;
             switch (name) {
                 case HERE:
                     return here;
