@@ -287,6 +287,7 @@ public final class ForetellTest {
         due.is("all to one", x.shares(16, 999, 4), 999);
         due.is("without any cloud", x.shares(8, 5, 3), -1);
         due.is("nothing to share", x.shares(7, 0, 0), 0);
+        due.is("by one drop", x.shares(64, 8, 6), 8);
         due.is("the most left over", x.shares(0x31, 10, 5), 9);
         due.is("next to that", x.shares(0x31, 10, 4), 1);
         due.is("least left over", x.shares(0x31, 10, 0), 0);

@@ -80,6 +80,8 @@ public final class LedgerTest {
         x.missing(0, 0, 0);
         due.is("suspects of two", x.near(-1), 10);
         due.is("none any more", x.near(2), -2);
+        x.missing(1, 0, 0);
+        due.is("near another", x.near(2), 13);
         due.is("without people", new OwnRain().near(-1), 0);
     }
 
@@ -131,7 +133,21 @@ public final class LedgerTest {
         due.is("suspects", x.near(-1), 0);
         x.missing(0, 500, 600);
         due.is("none", x.thieves(), -1);
+        fewestAheadOfLowest();
         due.is("without people", new OwnRain().thieves(), 0);
+    }
+
+    private static void fewestAheadOfLowest() {
+        // HOUR 0: 0 with 1 3; HOUR 1: 0 with 2 3.
+        OwnRain x = people(4);
+        x.go(2, 1);
+        x.hour(1);
+        x.go(1, 1);
+        x.go(2, 0);
+        x.hour(1);
+        x.missing(0, 0, 0);
+        x.missing(0, 1, 1);
+        due.is("one of a high number ahead of two of low ones", x.thieves(), 8);
     }
 
     private static void fills(OwnRain x, int[] how, long upper, long lower) {
@@ -226,6 +242,10 @@ public final class LedgerTest {
         x.forecast(0, true);
         x.forecast(0, true);
         due.is("all are", x.bound(), 0);
+        x.forecast(-1, true);
+        x.forecast(0, false);
+        x.forecast(1, true);
+        due.is("by 1", x.bound(), 1);
     }
 
     private static void tellErrors(OwnRain x, int[] alarms, int[] misses) {
@@ -280,5 +300,12 @@ public final class LedgerTest {
         x.offer(false, 99, 99);
         due.is("most at a higher one", x.market(-1), 55);
         due.is("at 99", x.market(99), 9);
+        for (int price = 0; price < 100; price += price < 3 ? 1 : 32) {
+            x.offer(true, 0, 0);
+            x.offer(true, price, 4);
+            x.offer(false, price, 5);
+            due.is("traded at " + price, x.market(price), 4);
+            due.is("the price " + price, x.market(-1), price);
+        }
     }
 }

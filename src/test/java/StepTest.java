@@ -17,6 +17,7 @@ public final class StepTest {
         takingBackWhatWasToldSince();
         waterIsKept();
         images();
+        imagesOfWhatIsOverwritten();
         due.close();
     }
 
@@ -186,6 +187,7 @@ public final class StepTest {
         OwnRain z = Due.played("tax 10;field 1 needs 2 drowns 99;one 5 age 1 on 0;work 0 by 9;hour 1;pour 4 on 0;");
         due.is("poured", z.ofField(0, 3), 4);
         due.is("a new one's cloud is 0", z.about(4), 9);
+        due.is("24 clauses", Due.played("hour 1;".repeat(24)).about(2), 24);
     }
 
     private static void playingHours() {
@@ -456,5 +458,48 @@ public final class StepTest {
         due.is("a new one", x.image(), 7);
         x.hour(1);
         due.is("back to that", x.back(), 7);
+    }
+
+    /** What can be told anew in the place of what the image has: lists, and the STEPS' own row. */
+    private static void imagesOfWhatIsOverwritten() {
+        due.about("promise 41, overwritten");
+        OwnRain x = new OwnRain();
+        x.field(0, 0, 9);
+        x.field(0, 0, 9);
+        x.road(0, 1);
+        x.person(99, 1, 0, 0);
+        x.work(0, 1);
+        x.person(99, 1, 1, 40);
+        x.work(1, 5);
+        x.hour(1);
+        x.go(0, 1);
+        x.hour(1);
+        x.missing(0, 1, 1);
+        x.forecast(3, true);
+        x.offer(true, 20, 7);
+        x.offer(false, 10, 9);
+        x.image();
+        String before = Seen.of(x);
+        x.missing(-1, 0, 0);
+        x.missing(1, 0, 0);
+        x.forecast(-1, false);
+        x.forecast(8, false);
+        x.offer(true, 0, 0);
+        x.offer(false, 30, 6);
+        x.offer(true, 50, 5);
+        for (int i = 0; i < 35; i++) {
+            x.work(0, 2 + i % 2);
+        }
+        x.back();
+        due.is("all is so again", Seen.of(x).equals(before), true);
+        due.is("near", x.near(0), 2);
+        due.is("misses", x.errors(4, true), 1);
+        due.is("traded", x.market(15), 7);
+        for (int i = 4; i >= 0; i--) {
+            due.is("taken back to " + i, x.undo(), i);
+        }
+        due.is("one told since is as it was told", x.ofPerson(1, 3), 40);
+        due.is("where it was told", x.ofPerson(1, 2), 1);
+        due.is("the first works not", x.ofPerson(0, 4), 0);
     }
 }

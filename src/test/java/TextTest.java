@@ -115,6 +115,11 @@ public final class TextTest {
         bad("rain count 1=<2 end;", 1, 13);
         bad("rain count 1>==2 end;", 1, 14);
         bad("rain count 1!2 end;", 1, 12);
+        bad("rain count 1<=", 1, 14);
+        bad(";".repeat(300), 1, 0);
+        bad("sweat 1" + "+1".repeat(146) + "!", 1, 299);
+        bad("sweat 1" + "+1".repeat(146) + "+", 1, 300);
+        good("sweat 1" + "+1".repeat(146) + ";");
         bad("Rain 1;", 1, 0);
         bad("rain Cloud;", 1, 5);
         bad("raincloud;", 1, 0);
