@@ -280,6 +280,26 @@ public final class EdgesForetoldTest {
         due.is("it has a FIELD all the same", y.match(4, 1, 2), 0);
         OwnRain z = Due.played("sweat -5;field 1 needs 0 drowns 9;one 1 age 1 on 0;");
         due.is("0 at least", z.match(1, 1, -1), 0);
+        matchWithoutSweat();
+    }
+
+    /** Where nobody sweats all are alike, yet only FIELDS of the set are given. */
+    private static void matchWithoutSweat() {
+        due.about("25: on a FIELD of the set, though nobody sweats anywhere");
+        OwnRain x = Due.played("sweat 0;");
+        for (int f = 0; f < 6; f++) {
+            x.field(0, 0, 1);
+        }
+        for (int p = 0; p < 8; p++) {
+            x.person(9, 9, 0, 0);
+        }
+        for (int people : new int[] {1, 0x80, 3, 0xc0, 0x92, 0x3f, 0xfc}) {
+            for (int fields = 1; fields < 64; fields++) {
+                boolean can = Integer.bitCount(people) == Integer.bitCount(fields);
+                due.is("match(" + people + ", " + fields + ", -1)", x.match(people, fields, -1), can ? 0 : -1);
+                lowestPlaces(x, people, fields, can);
+            }
+        }
     }
 
     private static void matchLikeOnes() {
@@ -375,6 +395,14 @@ public final class EdgesForetoldTest {
         row.asks("cross(5, 0, 0, _)", -1, 4, -1, (x, v) -> x.cross(5, 0, 0, v), v -> v == -1 ? 5 : 4 - v);
         row.asks("cross(2, 2, 0, _)", -1, -1, -1, (x, v) -> x.cross(2, 2, 0, v), v -> 0);
         row.asks("cross(0, 5, 1, _)", -1, 4, -1, (x, v) -> x.cross(0, 5, 1, v), v -> -1);
+        due.about("27: one is there: no FIELD is come to, dry as it may be between wet ones");
+        Edges dry = new Edges(due, () -> row(9, 0, 9));
+        for (int thirst : new int[] {0, 1, 9, 10, 999}) {
+            dry.asks("cross(1, 1, " + thirst + ", _)", -1, -1, -1, (x, v) -> x.cross(1, 1, thirst, v), v -> 0);
+            dry.asks("cross(0, 0, " + thirst + ", _)", -1, -1, -1, (x, v) -> x.cross(0, 0, thirst, v), v -> 0);
+        }
+        dry.asks("cross(1, 2, 9, _)", -1, 0, -1, (x, v) -> x.cross(1, 2, 9, v), v -> v == -1 ? 1 : 2);
+        dry.asks("cross(0, 2, 1, _)", -1, 4, -1, (x, v) -> x.cross(0, 2, 1, v), v -> -1);
     }
 
     private static void crossThirst() {

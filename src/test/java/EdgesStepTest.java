@@ -29,6 +29,7 @@ public final class EdgesStepTest {
         toldSince();
         water();
         images();
+        imagesOfLists();
         due.close();
     }
 
@@ -596,5 +597,62 @@ public final class EdgesStepTest {
         due.is("WORK", z.ofPerson(0, 4), 1);
         due.is("taken back", z.undo(), 6);
         due.is("WORK ahead of it", z.ofPerson(0, 4), 6);
+    }
+
+    /** What was told is told once more, in other words, so that nothing of it can be there by chance. */
+    private static void imagesOfLists() {
+        due.about("41: MISSING, FORECASTS and OFFERS are so again, each with all that was told of it");
+        OwnRain x = Village.full();
+        x.image();
+        String before = Seen.of(x);
+        for (int other = 0; other < 4; other++) {
+            x.missing(-1, 0, 0);
+            x.forecast(-1, true);
+            x.offer(true, 0, 0);
+            for (int i = 0; i < 12; i++) {
+                x.missing((i + other) % 8, other % 2 == 0 ? 0 : 990, other < 2 ? 999 : 995);
+                x.forecast(9 - i % 10, i % 3 != 0);
+                x.offer(i % 2 == 1, 30 + i * 3, 99 - i);
+            }
+            due.is("all is other", Seen.of(x).equals(before), false);
+            due.is("back()", x.back(), 999);
+            due.is("all is so again", Seen.of(x).equals(before), true);
+        }
+        due.about("41: the HOURS of what is MISSING are so again");
+        int[][] hours = {{979, 979}, {979, 998}, {998, 998}, {985, 990}, {0, 999}, {0, 978}};
+        OwnRain y = moving();
+        int[] near = new int[6];
+        for (int i = 0; i < 6; i++) {
+            y.missing(0, hours[i][0], hours[i][1]);
+            near[i] = y.near(i);
+        }
+        y.image();
+        for (int from : new int[] {0, 979, 986, 999}) {
+            y.missing(-1, 0, 0);
+            for (int i = 0; i < 6; i++) {
+                y.missing(0, from, 999);
+            }
+            y.back();
+            for (int i = 0; i < 6; i++) {
+                due.is("near(" + i + ")", y.near(i), near[i]);
+            }
+        }
+        due.is("the first, where 1 was in HOUR 979 alone", near[0], 2);
+        due.is("the third, behind it", near[2], 0);
+        due.is("the last, ahead of it", near[5], 0);
+    }
+
+    /** At HOUR 999; the second PERSON is with the first until HOUR 979. */
+    private static OwnRain moving() {
+        OwnRain x = new OwnRain();
+        x.field(0, 0, 1);
+        x.field(0, 0, 1);
+        x.road(0, 1);
+        x.person(99, 1, 0, 0);
+        x.person(99, 1, 0, 0);
+        Village.atHour(x, 980);
+        x.go(1, 1);
+        Village.atHour(x, 999);
+        return x;
     }
 }

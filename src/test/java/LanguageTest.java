@@ -1,6 +1,13 @@
 import java.io.IOException;
+import java.lang.reflect.Field;
+import java.lang.reflect.Method;
+import java.lang.reflect.Modifier;
 import java.nio.file.Files;
 import java.nio.file.Path;
+import java.util.ArrayList;
+import java.util.Arrays;
+import java.util.List;
+import java.util.TreeSet;
 import java.util.regex.Matcher;
 import java.util.regex.Pattern;
 
@@ -23,6 +30,9 @@ public final class LanguageTest {
         due.is("classes inside are private, static and final", found(code, "\\bclass \\w+"), 1 + found(code, "    private static final class \\w+"));
         due.is("parameters", found(code, "\\((?:[\\w\\[\\]]+ \\w+, ){7,}"), 0);
         methods(code);
+        face();
+        names();
+        fields();
         room();
         due.close();
     }
@@ -47,6 +57,68 @@ public final class LanguageTest {
             many++;
         }
         due.is("methods are found", many > 100, true);
+    }
+
+    /** The document's face, and nothing beside it that is seen from outside. */
+    private static void face() throws IOException {
+        String document = Files.readString(Path.of("../shared/DOC.md"));
+        TreeSet<String> want = new TreeSet<>();
+        Matcher method = Pattern.compile("(?m)^    public (int|long|boolean) (\\w+)\\((.*)\\);$").matcher(document);
+        while (method.find()) {
+            want.add(method.group(1) + " " + method.group(2) + "(" + method.group(3).replaceAll("(\\w+) \\w+", "$1") + ")");
+        }
+        TreeSet<String> got = new TreeSet<>();
+        for (Method own : OwnRain.class.getDeclaredMethods()) {
+            if (!Modifier.isPrivate(own.getModifiers())) {
+                List<String> types = new ArrayList<>();
+                Arrays.stream(own.getParameterTypes()).forEach(type -> types.add(type.getName()));
+                got.add(own.getReturnType() + " " + own.getName() + "(" + String.join(", ", types) + ")");
+                due.is(own.getName() + " is public, and no static one", own.getModifiers(), Modifier.PUBLIC);
+            }
+        }
+        due.about("1: the face");
+        due.is("methods of the document", want.size(), 41);
+        due.is(got + " by the side of " + want, got.equals(want), true);
+        due.is("public and final", OwnRain.class.getModifiers(), Modifier.PUBLIC | Modifier.FINAL);
+        due.is("one constructor", OwnRain.class.getDeclaredConstructors().length, 1);
+        for (Field own : OwnRain.class.getDeclaredFields()) {
+            due.is(own.getName(), !Modifier.isPrivate(own.getModifiers()), own.getName().equals("NONE"));
+        }
+    }
+
+    private static void names() {
+        due.about("1: no private method bears the name of a public one");
+        TreeSet<String> face = new TreeSet<>();
+        for (Method own : OwnRain.class.getMethods()) {
+            face.add(own.getName());
+        }
+        for (Class<?> inside : OwnRain.class.getDeclaredClasses()) {
+            for (Method own : inside.getDeclaredMethods()) {
+                due.is(inside.getName() + "." + own.getName(), face.contains(own.getName()), false);
+            }
+        }
+        for (Method own : OwnRain.class.getDeclaredMethods()) {
+            due.is(own.getName(), face.contains(own.getName()), Modifier.isPublic(own.getModifiers()));
+        }
+    }
+
+    private static void fields() {
+        List<Class<?>> all = new ArrayList<>(List.of(OwnRain.class.getDeclaredClasses()));
+        all.add(OwnRain.class);
+        for (Class<?> one : all) {
+            int many = 0;
+            due.about("5: static fields are final, of what can be a constant");
+            for (Field own : one.getDeclaredFields()) {
+                if (Modifier.isStatic(own.getModifiers())) {
+                    due.is(own.getName() + " is final", Modifier.isFinal(own.getModifiers()), true);
+                    due.is(own.getName() + " is a constant", List.of("int", "String", "int[]").contains(own.getType().getSimpleName()), true);
+                } else {
+                    many++;
+                }
+            }
+            due.about("11: some twenty fields");
+            due.is(one.getName(), many <= 20, true);
+        }
     }
 
     /** What 512 of the dearest calls leave behind, as nothing is ever given back. */
