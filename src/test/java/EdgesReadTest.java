@@ -279,6 +279,15 @@ public final class EdgesReadTest {
                 bad("tax count 1" + one + " " + other + "2 end;", 1, 12 + one.length());
             }
         }
+        due.about("II: = is joined to < and > alone");
+        for (int b = 0; b < 256; b++) {
+            String bytes = "tax count 1" + (char) b + "=2 end;";
+            if (b == '<' || b == '>' || b == 32 || b == 10 || isDigit(b)) {
+                good(bytes);
+            } else {
+                bad(bytes, 1, "+-*/=#".indexOf(b) >= 0 ? 12 : 11);
+            }
+        }
         bad("tax count 1<", 1, 12);
         bad("tax count 1<=", 1, 13);
         bad("tax count 1<==2 end;", 1, 13);
